@@ -2,8 +2,9 @@ import java.util.Random;
 
 /** Runs of calls drawn by chance (always the same ones), each answer beside the model's. */
 public final class ModelTest {
-    private static final int RUNS = 600;
-    private static final int CALLS = 500;
+    private static final int RUNS = 2000;
+    // An object is promised for 512 calls; a step makes some 110 at most.
+    private static final int LAST_STEP_FROM = 400;
     private static final int[] FAR = {Integer.MIN_VALUE, Integer.MAX_VALUE, -1, -2, 10000, 1 << 30, -1000000000};
     private static final String[] NAMES = {
         "street", "house", "comes", "round", "give", "weeks", "lawful", "breaches", "held", "free", "partings",
@@ -17,6 +18,7 @@ public final class ModelTest {
     private final int mostHouses;
     private final TwiceAsRich x = new TwiceAsRich();
     private final Model model = new Model();
+    private int calls;
 
     private ModelTest(int run, Checks checks) {
         this.chance = new Random(run);
@@ -31,7 +33,7 @@ public final class ModelTest {
         Checks checks = new Checks();
         for (int run = 0; run < RUNS; run++) {
             ModelTest test = new ModelTest(run, checks);
-            for (int call = 0; call < CALLS; call++) {
+            while (test.calls < LAST_STEP_FROM) {
                 test.step();
             }
         }
@@ -44,6 +46,7 @@ public final class ModelTest {
             told.append(i == 0 ? "(" : ", ").append(with[i]);
         }
         checks.due(told.toString(), got, want);
+        calls++;
     }
 
     // Mostly 0 .. n - 1, now and then beside it, rarely far from it.
@@ -93,6 +96,7 @@ public final class ModelTest {
         for (int i = 0; i < elements.length; i++) {
             x.put(d, i, elements[i]);
             model.put(d, i, elements[i]);
+            calls++;
         }
     }
 
