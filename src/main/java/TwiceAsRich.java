@@ -230,16 +230,13 @@ public final class TwiceAsRich {
     }
 
     public int wedding(int house) {
-        if (!street.has(house)) {
-            return NOT_AS_TOLD;
-        }
-        int other = street.behind(house);
-        if (other == NOBODY) {
+        // Round, the first is beside the last, but it is not behind it.
+        if (!street.has(house) || !street.has(house + 1)) {
             return NOT_AS_TOLD;
         }
         mind.become(street);
-        mind.purses[house] = Math.min(MOST_COINS, mind.purses[house] + mind.purses[other]);
-        mind.remove(other);
+        mind.purses[house] = Math.min(MOST_COINS, mind.purses[house] + mind.purses[house + 1]);
+        mind.remove(house + 1);
         return mind.allBreaches();
     }
 
@@ -835,6 +832,7 @@ public final class TwiceAsRich {
             return round == 1 && count >= 3;
         }
 
+        // Who is beside house i on its one side and on its other one: round, the first and the last, too.
         int ahead(int i) {
             if (i > 0) {
                 return i - 1;

@@ -59,8 +59,11 @@ public final class InMindTest {
         }
         due("all as it was", x.count(0) * 1000 + x.count(2), 3011);
         x.round(1);
-        due("round, the last with the first", x.wedding(2), 0);
-        due("round, no such house", x.wedding(3), -1);
+        for (int house : new int[] {-1, 2, 3, LOW, HIGH}) {
+            due("round, wedding(" + house + ")", x.wedding(house), -1);
+        }
+        due("round, wedding(0)", x.wedding(0), 0);
+        due("round, wedding(1)", x.wedding(1), 1);
         due("two are never round", Calls.street("h001;h001;r1;").wedding(1), -1);
         due("two become one", Calls.street("h001;h0050;").wedding(0), 0);
         due("the first one's kind", Calls.street("h0050;h301;h001;").wedding(0), 1);
@@ -70,8 +73,14 @@ public final class InMindTest {
         due("9999 at most", Calls.street("h009999;h009999;h005000;").wedding(0), 0);
         x = Calls.street("h001;h001;h001;h008;r1;");
         due("four become three, round", x.wedding(0), 2);
-        due("the last with the first", x.wedding(3), 2);
-        due("three become two", Calls.street("h001;h001;h008;r1;").wedding(0), 1);
+        due("none is behind the last of four, round", x.wedding(3), -1);
+        x = Calls.street("h001;h001;h008;r1;");
+        due("three become two", x.wedding(0), 1);
+        due("none is behind the last of three, round", x.wedding(2), -1);
+        x = Calls.street(EIGHT + "r1;");
+        due("the last but one of eight, round", x.wedding(6), 2);
+        due("none is behind the last of eight, round", x.wedding(7), -1);
+        due("none is behind one alone, round", Calls.street("h005;r1;").wedding(0), -1);
         due("no houses", new TwiceAsRich().wedding(0), -1);
     }
 

@@ -444,11 +444,10 @@ final class Model {
     }
 
     int wedding(int house) {
-        boolean closed = round == 1 && houses.size() >= 3;
-        if (!has(house) || house == houses.size() - 1 && !closed) {
+        if (!isIn(house, 0, houses.size() - 2)) {
             return -1;
         }
-        int other = (house + 1) % houses.size();
+        int other = house + 1;
         List<House> trial = new ArrayList<>();
         for (int i = 0; i < houses.size(); i++) {
             if (i == house) {
