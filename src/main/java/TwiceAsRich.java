@@ -1096,21 +1096,25 @@ public final class TwiceAsRich {
 
         // The place of the first byte with which no street can go on; -1: all can be read.
         int brokenPlace() {
+            if (size == 0) {
+                return 0;
+            }
             int at = 0;
-            do {
+            // A statement has a byte at least, so there are no more of them than bytes.
+            for (int read = 0; read < size && at < size; read++) {
                 int end = endOf(at);
                 if (byteAt(end) != ';' || end < at + 1 + fewestDigits(byteAt(at))) {
                     return end;
                 }
                 at = end + 1;
-            } while (at < size);
+            }
             return -1;
         }
 
         // The place of the letter of the first statement that can't be done on the street; -1: all were done.
         int wrongPlace(Street street) {
             int at = 0;
-            while (at < size) {
+            for (int read = 0; read < size && at < size; read++) {
                 if (!isDone(at, street)) {
                     return at;
                 }

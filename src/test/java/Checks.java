@@ -13,6 +13,18 @@ final class Checks {
         promises.add(name);
     }
 
+    /** The test of a sentence, which is told in the document's own words. */
+    void sentence(String words) {
+        promise(words);
+        due("the document says this", Document.says(words) ? 1 : 0, 1);
+    }
+
+    /** The test of what a promise says, in its own words. */
+    void promise(int n, String words) {
+        promise("promise " + n + ", " + words);
+        due("the promise says this", Document.promises(n, words) ? 1 : 0, 1);
+    }
+
     void due(String call, long got, long want) {
         checked++;
         if (got != want) {
