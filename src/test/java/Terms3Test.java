@@ -115,7 +115,7 @@ public final class Terms3Test {
         street("h309999;").due("partings(0)", 0).due("partings(1)", 1).due("partings(20)", 1);
         street("h300;h300;").due("partings(1)", 0).due("partings(2)", 1).due("partings(3)", 2).due("partings(20)", 19);
         street("h000;h000;").due("partings(5)", 2).due("partings(2)", 1);
-        street("h300;h000;").due("partings(5)", 4);
+        street("h300;h000;").due("partings(5)", 4).add("u;u;h000;h000;").due("partings(5)", 2).add("m01;u;h700;").due("partings(5)", 3);
         street("h700;h000;").due("partings(5)", 3);
         street(SIX_WALLS).due("partings(5)", 0).due("partings(6)", 1).due("partings(7)", 6);
         Trial three = street("h000;h000;h000;").due("partings(6)", 3);
@@ -244,6 +244,9 @@ public final class Terms3Test {
         Trial three = street("h002;h004;h003;r1;").due("worth(2, 1)", -2).due("worth(2, 9)", 4).due("worth(0, 9)", 0);
         three.due("round(0)", 1).due("worth(2, 1)", -6).due("worth(2, 9)", 0).due("worth(0, 9)", 10);
         street("h005;h700;h005;").due("worth(0, 2)", 4).due("worth(1, 0)", 0);
+        // The one beside it round is of the kind that it was, though it is one place further on.
+        street("h005;h005;h300;r1;").due("worth(0, 9)", 8).due("worth(0, 0)", -10);
+        street("h005;h300;h005;r1;").due("worth(0, 9)", 0).due("worth(0, 4)", -2);
     }
 
     private static void worthNeedsNoRoom() {
@@ -476,6 +479,9 @@ public final class Terms3Test {
             judged(FIVES, sort, 7, 5, 5, 5, 5, 5, 5, 5);
         }
         judged("h002;h004;", 0, 1, -128);
+        // Those that are no more are not looked at.
+        judged("h002;h004;h006;u;", 0, -4, 2, 4);
+        judged("h002;h004;h006;u;", 0, 1, 2);
     }
 
     private static void judgedTellsHowManyHousesIfLong() {
