@@ -49,7 +49,28 @@ public final class FaceTest {
         checks.due("the constructor is public", constructors[0].getModifiers(), Modifier.PUBLIC);
         checks.due("the constructor's arguments", constructors[0].getParameterCount(), 0);
         checks.due("the class", TwiceAsRich.class.getModifiers(), Modifier.PUBLIC | Modifier.FINAL);
+        checks.promise("the classes inside");
+        for (Class<?> inside : TwiceAsRich.class.getDeclaredClasses()) {
+            checkInside(checks, inside);
+        }
         checks.end();
+    }
+
+    // Rules 1, 5 and 11 of LANGUAGE.md, as far as they tell of classes inside.
+    private static void checkInside(Checks checks, Class<?> inside) {
+        String name = inside.getSimpleName();
+        checks.due(name + " can be seen", inside.getModifiers() & (Modifier.PUBLIC | Modifier.PROTECTED), 0);
+        checks.due(name + " is static", Modifier.isStatic(inside.getModifiers()) ? 1 : 0, 1);
+        checks.due(name + " has many fields", Math.max(20, inside.getDeclaredFields().length), 20);
+        for (Field field : inside.getDeclaredFields()) {
+            boolean loose = Modifier.isStatic(field.getModifiers()) && !Modifier.isFinal(field.getModifiers());
+            checks.due(name + "'s field " + field.getName() + " is static and can change", loose ? 1 : 0, 0);
+        }
+        for (Method method : inside.getDeclaredMethods()) {
+            String called = name + "." + method.getName();
+            checks.due(called + " has a name of the face", isOfFace(method.getName()) ? 1 : 0, 0);
+            checks.due(called + " has many arguments", Math.max(7, method.getParameterCount()), 7);
+        }
     }
 
     private static boolean isOfFace(String name) {
